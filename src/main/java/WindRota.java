@@ -771,7 +771,7 @@ public final class WindRota {
             sick = other.sick;
             force = other.force;
             count = other.count;
-            for (int i = 0; i < MOST_THINGS; i++) {
+            for (int i = 0; i < count; i++) {
                 things[i].become(other.things[i]);
             }
         }
@@ -792,7 +792,7 @@ public final class WindRota {
             one.kind = kind;
             one.cell = cell;
             one.facing = facing;
-            // A place may have been used before undo() took its thing away.
+            // The place may still tell of a thing that undo() took away.
             one.sum = 0;
             count++;
         }

@@ -81,8 +81,16 @@ public final class BestTest {
         Due.is("reach(0, 0)", x.reach(0, 0), 1L << 14);
         Due.is("reach(0, 1): it must go", x.reach(0, 1), round);
         Due.is("reach(0, 30)", x.reach(0, 30), (1L << 36) - 1);
+        x.days(6);
+        x.set(0, 1, 14);
+        Due.is("day 6 is a calm, day 7 isn't", x.reach(0, 1), round | 1L << 14);
+        x.days(2);
+        x.set(0, 1, 14);
+        x.turn(0, 4);
+        Due.is("a captain lies to by a wind against it", x.reach(0, 2), 31 + (7 << 7) + (1 << 14));
+        x.turn(0, 1);
         still(x);
-        Due.is("on a calm it may stay", x.reach(0, 1), round | 1L << 14);
+        Due.is("in the still it may stay", x.reach(0, 1), round | 1L << 14);
         x.turn(0, 0);
         Due.is("a mill stays", x.reach(0, 30), 1L << 14);
         x.set(0, 1, 35);
@@ -185,6 +193,7 @@ public final class BestTest {
         }
         Due.is("all are sick", y.best(0, 30), 0);
         Due.is("rota as it was", x.rotaOf(0), 0);
+        Due.is("best(6, 7)", one(0, 0).best(6, 7), 0);
     }
 
     private static void wrong() {

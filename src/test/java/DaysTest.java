@@ -7,6 +7,7 @@ public final class DaysTest {
         lastDays();
         ahead();
         comes();
+        sixtyDays();
         meet();
         wrong();
         Due.end();
@@ -63,9 +64,12 @@ public final class DaysTest {
         x.days(4);
         Due.is("a calm comes", x.now(1), 8);
         Due.is("bribe(0) on a calm", x.bribe(0) > 0 ? 1 : 0, 1);
+        x.set(0, 1, 14);
+        x.bribe(7);
+        Due.is("bribe(7)", x.of(0, 1), 7);
         Due.is("bribe(-1)", x.bribe(-1), Due.BEYOND);
         Due.is("bribe(8)", x.bribe(8), Due.BEYOND);
-        Due.is("now(0)", x.now(0), 7);
+        Due.is("now(0)", x.now(0), 8);
         Due.is("days(1) of none", new WindRota().days(1), 0);
         Due.is("bribe(0) of none", new WindRota().bribe(0), 0);
     }
@@ -144,6 +148,26 @@ public final class DaysTest {
         Due.is("comes(0, -1)", y.comes(0, -1), Due.BEYOND);
         Due.is("comes(1, 0)", y.comes(1, 0), Due.BEYOND);
         Due.is("comes(-1, 0)", y.comes(-1, 0), Due.BEYOND);
+    }
+
+    /** Five weeks along the second row, then down the rim: it comes to the last cell on the 60th day just. */
+    private static void sixtyDays() {
+        WindRota x = new WindRota();
+        for (int d = 0; d < 7; d++) {
+            x.rota(d, 8);
+        }
+        x.rota(0, 1);
+        x.rota(3, 4);
+        x.thing(1, 6);
+        x.thing(0, 35);
+        Due.is("on(0, 59, 0)", x.on(0, 59, 0), 29);
+        Due.is("on(0, 60, 0)", x.on(0, 60, 0), 35);
+        Due.is("comes(0, 35)", x.comes(0, 35), 60);
+        Due.is("meet(0, 1)", x.meet(0, 1), 60);
+        x.rota(3, 8);
+        x.rota(4, 4);
+        Due.is("comes(0, 35) a day later", x.comes(0, 35), Due.NONE);
+        Due.is("meet(0, 1) a day later", x.meet(0, 1), Due.NONE);
     }
 
     private static void meet() {

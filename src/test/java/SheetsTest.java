@@ -20,7 +20,9 @@ public final class SheetsTest {
         x.write(0, 39, 7);
         Due.is("sheet(0, 8, 40) again", x.sheet(0, 8, 40), 40);
         Due.is("all are 0 again", x.write(0, 39, 7), 0);
+        x.write(0, 0, 7);
         x.sheet(0, 8, 3);
+        Due.is("the first, too", x.write(0, 0, 0), 0);
         x.sheet(0, 8, 40);
         Due.is("also behind a shorter one", x.write(0, 39, 0), 0);
         int[][] beyond = {{-1, 8, 1}, {4, 8, 1}, {0, 1, 1}, {0, -8, 1}, {0, 32, 1}, {0, 8, 41}, {0, 0, 41},
@@ -77,6 +79,8 @@ public final class SheetsTest {
         same(x, 0, "3 4 5 0 5 5 ");
         Due.is("no such sheet first", x.copy(4, 0, 3, 0, 1), Due.BEYOND);
         Due.is("no such other sheet", x.copy(3, 0, -1, 0, 1), Due.BEYOND);
+        Due.is("no such other sheet", x.copy(3, 0, 4, 0, 1), Due.BEYOND);
+        Due.is("no such sheet", x.copy(-1, 0, 3, 0, 1), Due.BEYOND);
         Due.is("missing before bits", x.copy(3, 0, 2, 0, 1), Due.MISSING);
         Due.is("the other is missing", x.copy(2, -1, 3, 0, 1), Due.MISSING);
         Due.is("bits before places", x.copy(0, -1, 2, 0, 99), Due.KIND);
@@ -115,6 +119,7 @@ public final class SheetsTest {
         x.sheet(1, 8, 0);
         Due.is("of none", x.lays(1), 0);
         Due.is("lays(2)", x.lays(2), Due.MISSING);
+        Due.is("lays(3)", x.lays(3), Due.MISSING);
         Due.is("lays(4)", x.lays(4), Due.BEYOND);
         Due.is("lays(-1)", x.lays(-1), Due.BEYOND);
     }

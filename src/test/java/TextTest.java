@@ -89,7 +89,7 @@ public final class TextTest {
     private static void faults() {
         String[] texts = {"", "   ", ";", "mill", "mill ", "mill at", "mill at 3 facing", "mill at 3;", "mill at 3; ",
             "rota", "rota ;", "rota 1 2;", "sick", "well ", "force",
-            "mills at 3", "mil at 3", "Mill at 3", "3", "at 3", "facing 3",
+            "mills at 3", "mil at 3", "kill at 3", "millz at 3", "mill at 3 facinz 1", "mill az 3", "a", "z", "Mill at 3", "3", "at 3", "facing 3",
             "mill 3", "mill at at 3", "mill at x", "mill at 36", "mill at 1000", "mill at -1",
             "mill at 3 4", "mill at 3 at 4", "mill at 3 facing 8", "mill at 3 facing ;", "mill at 3 facing 1 facing 1",
             "mill at 3 kite at 4", "mill at 3;;kite at 4", "mill at 3,kite at 4",
@@ -98,7 +98,7 @@ public final class TextTest {
             "force \u00b2", "force 1;\u0000", "force 1a", "force 1;force", "force 1;force 2;sicker 1"};
         int[] places = {0, 3, 0, 4, 5, 7, 16, 10, 11,
             4, 5, 9, 4, 5, 5,
-            0, 0, 0, 0, 0, 0,
+            0, 0, 0, 0, 10, 5, 0, 0, 0, 0, 0, 0,
             5, 8, 8, 8, 8, 8,
             10, 10, 17, 17, 19,
             10, 10, 9,

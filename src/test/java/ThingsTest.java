@@ -58,6 +58,12 @@ public final class ThingsTest {
         Due.is("a 9th of no kind", x.thing(6, 0), Due.BEYOND);
         Due.is("a 9th at no cell", x.thing(0, 36), Due.BEYOND);
         Due.is("count(0)", x.count(0), 8);
+        Due.is("what eight earn", x.now(5), 3 + 4 + 5 + 5 + 8 + 3 + 3 + 3);
+        Due.is("who of eight goes", x.now(6), 4 + 8);
+        Due.is("days(1) of eight", x.days(1), 34);
+        x.image();
+        Due.is("undo() of eight", x.undo(), 8);
+        Due.is("swap(2) of eight", x.swap(2) == Due.BEYOND ? 1 : 0, 0);
     }
 
     private static void earnsByWind() {
@@ -92,6 +98,11 @@ public final class ThingsTest {
                 Due.is("kind " + k + " goes by force " + f, x.of(k, 5), f >= GOES_FROM[k] ? 1 : 0);
             }
         }
+        int[] storm = {5, 6, 0, 5, 0, 0};
+        x.rota(0, 4);
+        for (int k = 0; k < 6; k++) {
+            Due.is("kind " + k + " earns by force 9 from behind", x.of(k, 4), storm[k]);
+        }
         x.rota(0, 8);
         int[] calm = {0, 1, 0, 0, 0, 0};
         for (int k = 0; k < 6; k++) {
@@ -107,6 +118,9 @@ public final class ThingsTest {
             x.rota(0, w);
             Due.is("who goes by wind " + w, x.now(6), off[w] <= 1 ? 18 : 2);
         }
+        x.turn(0, 1);
+        Due.is("the first, too", x.now(6), 1 + 2 + 16);
+        x.turn(0, 0);
         x.force(9);
         Due.is("with force 9", x.now(6), 2 + 4 + 16 + 32);
         x.rota(0, 4);
