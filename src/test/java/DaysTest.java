@@ -18,11 +18,13 @@ public final class DaysTest {
         x.thing(1, 14);
         x.thing(4, 14);
         x.thing(2, 14);
+        WindRota ahead = new WindRota();
+        ahead.thing(1, 14);
         int[] fishers = {8, 3, 4, 11, 17, 22, 22};
         int[] captains = {8, 3, 3, 3, 3, 3, 3};
         int[] sums = {5 + 5 + 3, 9 + 9 + 6, 12 + 9 + 9, 14 + 9 + 12, 15 + 9 + 15, 17 + 9 + 18, 18 + 9 + 18};
         for (int d = 0; d < 7; d++) {
-            Due.is("on(0, " + (d + 1) + ", 0) told on day 0", new WindRotaWeek().on(d + 1), fishers[d]);
+            Due.is("on(0, " + (d + 1) + ", 0) told on day 0", ahead.on(0, d + 1, 0), fishers[d]);
             Due.is("days(1) on day " + d, x.days(1), sums[d]);
             Due.is("the fisher after day " + d, x.of(0, 1), fishers[d]);
             Due.is("the captain after day " + d, x.of(1, 1), captains[d]);
@@ -37,16 +39,6 @@ public final class DaysTest {
         y.thing(2, 14);
         Due.is("days(7) at once", y.days(7), sums[6]);
         Due.holds("seven days are one by one", Due.all(x).equals(Due.all(y)));
-    }
-
-    /** A fisher on day 0, always new: what is told ahead must not come of what went before. */
-    private static final class WindRotaWeek {
-        private final WindRota x = new WindRota();
-
-        int on(int n) {
-            x.thing(1, 14);
-            return x.on(0, n, 0);
-        }
     }
 
     private static void bribe() {
