@@ -349,7 +349,7 @@ public final class WindRota {
         if (!isSpan(n, NEAR_DAYS)) {
             return finding(BEYOND);
         }
-        pick.begin(Integer.MIN_VALUE);
+        pick.begin(Pick.BELOW_ALL);
         for (int w = 0; w < WINDS; w++) {
             if (!sea.isSick(w)) {
                 trial.become(sea);
@@ -378,7 +378,7 @@ public final class WindRota {
         if (!sea.has(thing) || !isSpan(n, NEAR_DAYS)) {
             return finding(BEYOND);
         }
-        pick.begin(Integer.MIN_VALUE);
+        pick.begin(Pick.BELOW_ALL);
         for (int k = 0; k < KINDS; k++) {
             trial.become(sea);
             trial.things[thing].kind = k;
@@ -391,7 +391,7 @@ public final class WindRota {
         if (!sea.has(thing) || !isSpan(n, NEAR_DAYS)) {
             return finding(BEYOND);
         }
-        pick.begin(Integer.MIN_VALUE);
+        pick.begin(Pick.BELOW_ALL);
         for (int w = 0; w < WINDS; w++) {
             trial.become(sea);
             trial.things[thing].facing = w;
@@ -404,7 +404,7 @@ public final class WindRota {
         if (!within(day, WEEK - 1) || !isSpan(n, NEAR_DAYS)) {
             return finding(BEYOND);
         }
-        pick.begin(Integer.MIN_VALUE);
+        pick.begin(Pick.BELOW_ALL);
         for (int w = 0; w <= CALM; w++) {
             trial.become(sea);
             trial.rota[day] = w;
@@ -933,6 +933,8 @@ public final class WindRota {
     /** The first of the values that are weighed the heaviest, if heavier than what it began with. */
     private static final class Pick {
         static final int NOTHING = -1;
+        /** No gain of eight things in thirty days comes near it, on either side of 0. */
+        static final int BELOW_ALL = -1000000000;
 
         int found;
         private int most;

@@ -81,4 +81,17 @@ final class Due {
         }
         return told.toString();
     }
+
+    /** All that two objects can be told apart by, but status(); what is asked changes the object. */
+    static String whole(WindRota x) {
+        StringBuilder told = new StringBuilder(all(x));
+        for (int s = 0; s < 4; s++) {
+            told.append("sheet ").append(numbers(x, s));
+            // How many bits it has is seen by what comes back of a number that needs many.
+            x.write(s, 0, 1L << 40 | 1L << 12 | 1);
+            told.append("bits ").append(x.write(s, 0, 0)).append(' ');
+        }
+        told.append("text ").append(x.sea()).append(' ').append(all(x));
+        return told.append("image ").append(x.undo()).append(' ').append(all(x)).toString();
+    }
 }

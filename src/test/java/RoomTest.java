@@ -6,13 +6,17 @@ public final class RoomTest {
 
     public static void main(String[] args) {
         com.sun.management.ThreadMXBean room = (com.sun.management.ThreadMXBean) ManagementFactory.getThreadMXBean();
-        WindRota x = new WindRota();
-        long sum = round(x);
+        // Each object is used for a few rounds only: it is promised for 512 calls.
+        WindRota[] seas = new WindRota[ROUNDS];
+        for (int i = 0; i < ROUNDS; i++) {
+            seas[i] = new WindRota();
+        }
+        long sum = round(seas[0]);
         long me = Thread.currentThread().getId();
         room.getThreadAllocatedBytes(me);
         long before = room.getThreadAllocatedBytes(me);
         for (int i = 0; i < ROUNDS; i++) {
-            sum += round(x);
+            sum += round(seas[i]);
         }
         long made = room.getThreadAllocatedBytes(me) - before;
         // Some bytes are the measuring's own; an object for each round would be far above.

@@ -106,13 +106,13 @@ public final class TextTest {
             5, 7, 5, 5, 6, 8, 5, 7,
             6, 8, 7, 13, 16};
         Due.is("as many places as texts", places.length, texts.length);
-        WindRota x = new WindRota();
-        String was = Due.all(x);
+        String was = Due.all(new WindRota());
         for (int i = 0; i < texts.length; i++) {
+            WindRota x = new WindRota();
             Due.is("sea() of '" + texts[i] + "'", Due.sea(x, texts[i]), -1 - places[i]);
             Due.holds("nothing came of '" + texts[i] + "'", was.equals(Due.all(x)));
+            Due.is("a fault is no finding", x.status(-1), 0);
         }
-        Due.is("a fault is no finding", x.status(-1), 0);
     }
 
     private static void ninth() {
