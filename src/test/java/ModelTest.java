@@ -22,10 +22,46 @@ public final class ModelTest {
 
     public static void main(String[] args) throws ReflectiveOperationException {
         ranges();
+        everyEarning();
         for (int run = 0; run < RUNS; run++) {
             new ModelTest(run).go();
         }
         Due.end();
+    }
+
+    /** What each kind earns and whether it goes: every facing, wind and force, on a day of rest 1 and beside it. */
+    private static void everyEarning() {
+        for (int kind = 0; kind < 6; kind++) {
+            for (int facing = 0; facing < 8; facing++) {
+                for (int day = 0; day < 3; day++) {
+                    earnings(kind, facing, day);
+                }
+            }
+        }
+    }
+
+    private static void earnings(int kind, int facing, int day) {
+        WindRota x = new WindRota();
+        Model model = new Model();
+        x.thing(kind, 14);
+        model.thing(kind, 14);
+        x.set(0, 2, facing);
+        model.set(0, 2, facing);
+        for (int d = 0; d < day; d++) {
+            x.days(1);
+            model.days(1);
+        }
+        for (int wind = 0; wind <= 8; wind++) {
+            for (int force = 0; force <= 9; force++) {
+                x.rota(day, wind);
+                model.rota(day, wind);
+                x.force(force);
+                model.force(force);
+                String who = "kind " + kind + " facing " + facing + " on day " + day + " by " + wind + ", " + force;
+                Due.is(who + " earns", x.of(0, 4), model.of(0, 4));
+                Due.is(who + " goes", x.of(0, 5), model.of(0, 5));
+            }
+        }
     }
 
     private static void range(String call, int... edges) {

@@ -6,7 +6,9 @@ public final class WindsTest {
         sick();
         force();
         blows();
+        blowsWhoeverIsSick();
         lee();
+        leeEverywhere();
         Due.end();
     }
 
@@ -116,6 +118,38 @@ public final class WindsTest {
         int[][] wrong = {{-1, 0}, {36, 0}, {0, -1}, {14, 8}, {36, 8}};
         for (int[] a : wrong) {
             Due.is("lee(" + a[0] + ", " + a[1] + ")", x.lee(a[0], a[1]), Due.BEYOND);
+        }
+    }
+
+    private static void blowsWhoeverIsSick() {
+        for (int sick = 0; sick < 256; sick++) {
+            WindRota x = new WindRota();
+            for (int w = 0; w < 8; w++) {
+                x.sick(w, sick >> w & 1);
+            }
+            for (int due = 0; due <= 8; due++) {
+                x.rota(3, due);
+                int wind = due == 8 || sick == 255 ? 8 : due;
+                while (wind != 8 && (sick >> wind & 1) == 1) {
+                    wind = wind == 7 ? 0 : wind + 1;
+                }
+                Due.is("wind " + due + " with " + sick + " sick", x.blows(10), wind);
+            }
+        }
+    }
+
+    private static void leeEverywhere() {
+        WindRota x = new WindRota();
+        String[] ways = {"N", "NE", "E", "SE", "S", "SW", "W", "NW"};
+        for (int cell = 0; cell < 36; cell++) {
+            for (int w = 0; w < 8; w++) {
+                String way = ways[w];
+                boolean isOver = way.contains("N") && cell < 6 || way.contains("S") && cell >= 30
+                    || way.contains("W") && cell % 6 == 0 || way.contains("E") && cell % 6 == 5;
+                int to = cell + (way.contains("N") ? -6 : 0) + (way.contains("S") ? 6 : 0)
+                    + (way.contains("W") ? -1 : 0) + (way.contains("E") ? 1 : 0);
+                Due.is("lee(" + cell + ", " + w + ")", x.lee(cell, w), isOver ? Due.NONE : to);
+            }
         }
     }
 }
