@@ -1,13 +1,25 @@
+import java.io.IOException;
 import java.lang.reflect.Constructor;
 import java.lang.reflect.Field;
 import java.lang.reflect.Member;
 import java.lang.reflect.Method;
 import java.lang.reflect.Modifier;
+import java.nio.file.Files;
+import java.nio.file.Path;
+import java.util.ArrayList;
+import java.util.LinkedHashMap;
+import java.util.List;
+import java.util.Map;
 import java.util.Set;
 import java.util.TreeSet;
+import java.util.regex.Matcher;
+import java.util.regex.Pattern;
 
 /** The class has the document's face, and nothing else can be seen of it. */
 public final class FaceTest {
+    private static final Path DOCUMENT = Path.of("../shared/DOC.md");
+    private static final Path PROGRAM = Path.of("src/main/java/WindRota.java");
+
     private static final Set<String> FACE = Set.of(
         "int rota(int,int)", "int rotaOf(int)", "int sick(int,int)", "int force(int)", "int blows(int)",
         "int lee(int,int)", "int thing(int,int)", "int of(int,int)", "int set(int,int,int)", "int turn(int,int)",
@@ -19,7 +31,7 @@ public final class FaceTest {
         "int book(int,int)", "int read(int,int)", "int image()", "int undo()", "int tear()", "int count(int)",
         "int status(int)");
 
-    public static void main(String[] args) {
+    public static void main(String[] args) throws IOException {
         Class<?> type = WindRota.class;
         Due.holds("public and final", Modifier.isPublic(type.getModifiers()) && Modifier.isFinal(type.getModifiers()));
         Set<String> names = new TreeSet<>();
@@ -34,6 +46,9 @@ public final class FaceTest {
             }
         }
         Due.holds("the methods are the document's: " + seen, seen.equals(FACE));
+        for (Method m : type.getDeclaredMethods()) {
+            Due.holds(m + " bears no name of the face", Modifier.isPublic(m.getModifiers()) || !names.contains(m.getName()));
+        }
         Constructor<?>[] makers = type.getDeclaredConstructors();
         Due.is("constructors", makers.length, 1);
         Due.holds("a public constructor without arguments",
@@ -53,7 +68,41 @@ public final class FaceTest {
                 Due.holds(m + " bears no name of the face", !names.contains(m.getName()));
             }
         }
+        if (Files.exists(DOCUMENT)) {
+            isWrittenAs(Files.readString(DOCUMENT), Files.readString(PROGRAM));
+        } else {
+            System.out.println("  " + DOCUMENT + " isn't here: the face isn't compared with it");
+        }
         Due.end();
+    }
+
+    /** The face stands in the program as the document writes it: names, parameters, order, and what is said ahead. */
+    private static void isWrittenAs(String document, String program) {
+        String face = document.substring(document.indexOf("```java"), document.indexOf("## Terms"));
+        List<String> written = all(program, "(?m)^ {0,4}(public .*?) \\{$");
+        Due.is("lines of the face", written.size(), 42);
+        Due.holds("the face: " + written, written.equals(all(face, "(?m)^ *(public .*?)(?: \\{|;)$")));
+        Map<String, List<String>> due = new LinkedHashMap<>();
+        Matcher ahead = Pattern.compile("(?m)^Ahead of the calls (.*) the interface says: (---- .*)\\.$").matcher(document);
+        while (ahead.find()) {
+            due.put(ahead.group(2), all(ahead.group(1), "`(\\w+)`"));
+        }
+        Map<String, List<String>> said = new LinkedHashMap<>();
+        Matcher part = Pattern.compile("(?s)// (---- [^\n]*)\n(.*?)(?=// ----)").matcher(program);
+        while (part.find()) {
+            said.put(part.group(1), all(part.group(2), "(?m)^    public \\w+ (\\w+)\\("));
+        }
+        Due.is("parts of the interface", due.size(), 7);
+        Due.holds("what the interface says: " + said, said.toString().equals(due.toString()));
+    }
+
+    private static List<String> all(String text, String pattern) {
+        List<String> found = new ArrayList<>();
+        Matcher matcher = Pattern.compile(pattern).matcher(text);
+        while (matcher.find()) {
+            found.add(matcher.group(1));
+        }
+        return found;
     }
 
     private static void isHidden(Member member) {

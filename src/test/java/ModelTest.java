@@ -7,14 +7,17 @@ import java.util.TreeMap;
 
 /** Runs of calls, made from fixed seeds, on WindRota and on the model: every answer must be the same. */
 public final class ModelTest {
-    private static final int RUNS = 400;
-    private static final int CALLS = 512;
+    private static final int RUNS = 1200;
+    /** An object is promised for so many calls, those that feed a text and those that ask for status() among them. */
+    private static final int MOST_CALLS = 512;
+    private static final int LAST_CALLS = 8;
+    private static final int TEXT_CALLS = 40;
 
     /** For each call the least and the most of each argument, one beyond the edges on both sides. */
     private static final Map<String, int[]> RANGES = new TreeMap<>();
     /** How often a call is made, against 10 for the others. */
     private static final Map<String, Integer> WEIGHTS = Map.of("thing", 25, "sea", 20, "bribes", 3, "soonest", 3,
-        "reach", 3, "swap", 3, "tear", 2, "wipe", 1, "days", 15, "sheet", 6);
+        "reach", 3, "swap", 3, "tear", 2, "wipe", 1, "days", 15, "sheet", 20);
 
     private static final String[] WORDS = {"mill", "fisher", "washing", "kite", "captain", "widow", "at", "facing",
         "rota", "sick", "well", "force", ";", " ", "  ", "0", "1", "5", "7", "8", "9", "10", "35", "36", "999",
@@ -118,6 +121,7 @@ public final class ModelTest {
     private final Map<String, Method> ofProgram = new TreeMap<>();
     private final Map<String, Method> ofModel = new TreeMap<>();
     private String lastText = "";
+    private int calls = 0;
 
     private ModelTest(int run) {
         this.run = run;
@@ -135,32 +139,41 @@ public final class ModelTest {
     }
 
     private void go() throws ReflectiveOperationException {
-        String[] names = RANGES.keySet().toArray(new String[0]);
-        int all = Arrays.stream(names).mapToInt(n -> WEIGHTS.getOrDefault(n, 10)).sum();
-        for (int c = lateStart(); c < CALLS; c++) {
-            int left = random.nextInt(all);
-            int i = 0;
-            while (left >= WEIGHTS.getOrDefault(names[i], 10)) {
-                left -= WEIGHTS.getOrDefault(names[i], 10);
-                i++;
-            }
-            if (names[i].equals("sea")) {
+        startLate();
+        while (has(LAST_CALLS + 1)) {
+            String name = someName();
+            if (name.equals("sea") && has(LAST_CALLS + TEXT_CALLS)) {
                 feedText();
             }
-            call(names[i]);
+            call(name);
         }
         for (int which = -1; which < 7; which++) {
             same("status", which);
         }
+        Due.is("run " + run + ": calls of one object", calls, MOST_CALLS);
     }
 
-    /** Some runs begin near the last day: how many calls that took. */
-    private int lateStart() throws ReflectiveOperationException {
-        int calls = run % 10 == 3 ? 166 : 0;
-        for (int c = 0; c < calls; c++) {
+    private boolean has(int more) {
+        return calls + more <= MOST_CALLS;
+    }
+
+    private String someName() {
+        int all = RANGES.keySet().stream().mapToInt(n -> WEIGHTS.getOrDefault(n, 10)).sum();
+        int left = random.nextInt(all);
+        for (String name : RANGES.keySet()) {
+            left -= WEIGHTS.getOrDefault(name, 10);
+            if (left < 0) {
+                return name;
+            }
+        }
+        throw new IllegalStateException("the weights are not those of the calls");
+    }
+
+    /** Some runs begin near the last day. */
+    private void startLate() throws ReflectiveOperationException {
+        for (int c = 0; run % 10 == 3 && c < 166; c++) {
             same("days", 60);
         }
-        return calls;
     }
 
     private void call(String name) throws ReflectiveOperationException {
@@ -203,6 +216,7 @@ public final class ModelTest {
     private void same(String name, Object... args) throws ReflectiveOperationException {
         String call = "run " + run + ": " + name + Arrays.toString(args) + (name.equals("sea") ? " " + lastText : "");
         long got;
+        calls++;
         try {
             got = ((Number) ofProgram.get(name).invoke(program, args)).longValue();
         } catch (InvocationTargetException thrown) {
@@ -225,9 +239,22 @@ public final class ModelTest {
             spoil(text);
         }
         lastText = text.toString();
-        for (int i = 0; i < text.length(); i++) {
-            same("feed", (int) text.charAt(i), 1);
+        // The first piece is of 1 to 4 bytes, so that the others begin anywhere in a word.
+        int from = 0;
+        for (int n = 1 + random.nextInt(4); from < text.length(); n = 4) {
+            int to = Math.min(text.length(), from + n);
+            same("feed", number(text.substring(from, to)), to - from);
+            from = to;
         }
+    }
+
+    /** The bytes of a piece of text, the first of them highest. */
+    private static int number(String piece) {
+        int bytes = 0;
+        for (char c : piece.toCharArray()) {
+            bytes = bytes << 8 | c;
+        }
+        return bytes;
     }
 
     private String item() {
